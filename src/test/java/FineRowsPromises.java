@@ -77,6 +77,11 @@ public final class FineRowsPromises {
             due.is("rule(0, 0, 0)", x.rule(0, 0, 0), number);
         }
         due.is("an 11th rule", x.rule(0, 0, 0), -1);
+        interestIs(x, 9, 1, 1, 100000);
+        for (int number = 10; number < 14; number++) {
+            interestIs(x, number, 1, 1, -1);
+            due.is("loan by no rule", x.loan(0, 0, number, 0), 0);
+        }
         FineRows y = withRule();
         lose(y, 0, 0, 1000, 0);
         due.is("a rule's first interest", y.owes(0, 1000000), 1000);
@@ -250,6 +255,12 @@ public final class FineRowsPromises {
         due.is("lost", x.back(3, 20), -1);
         x.found(2, 10);
         due.is("found", x.back(3, 20), -1);
+
+        FineRows y = new FineRows();
+        y.rule(1, 1, 0);
+        y.loan(0, 0, 0, 0);
+        due.is("late by one cent", y.back(1, 1), 1);
+        due.is("debt(1, 1)", y.debt(1, 1), 1);
     }
 
     private static void lost() {
@@ -352,7 +363,11 @@ public final class FineRowsPromises {
         due.is("debt(3, 2)", x.debt(3, 2), 100);
         due.is("the paid one gets no more", x.pay(0, 1), 1);
         due.is("debt(3, 2)", x.debt(3, 2), 99);
+        due.is("all but one cent", x.pay(0, 98), 1);
+        due.is("the last cent", x.pay(0, 1), 1);
+        due.is("debt(3, 2)", x.debt(3, 2), 0);
         due.is("another's debt", x.debt(2, 2), 100);
+        lose(x, 3, 0, 99, 5);
         due.is("above what is left", x.pay(0, 10000000), 1);
         due.is("owes(0, -1)", x.owes(0, -1), -9999901);
         for (int n = 0; n < 300; n++) {
@@ -540,6 +555,7 @@ public final class FineRowsPromises {
         lose(x, 0, 0, 10000000, 0);
         due.is("a third", x.share(1, 1, 3), 3333333);
         due.is("all", x.share(1, 1000, 1000), 10000000);
+        due.is("one of one", x.share(1, 1, 1), 10000000);
         due.is("the least", x.share(1, 1, 1000), 10000);
         due.is("999 of 1000", x.share(1, 999, 1000), 9990000);
         due.is("up 0", x.share(1, 0, 3), -1);
@@ -559,7 +575,9 @@ public final class FineRowsPromises {
     /** 120 loans make 200 debts only where a found loss leaves a second debt, so 98 losses are found again. */
     private static void fullDebts() {
         due.part("promises 7, 8, 9 at 200 debts");
-        FineRows x = withRule();
+        FineRows x = new FineRows();
+        x.rule(1, 1000, 0);
+        interestIs(x, 0, 1, 10, 10000);
         int loan = 0;
         int debts = 0;
         for (int n = 0; n < 98; n++) {
@@ -578,18 +596,20 @@ public final class FineRowsPromises {
         due.is("the 200th", x.back(x.loan(5, 0, 0, 0), 1), ++debts);
         due.is("200 debts", debts, 200);
         due.is("pay(0, 55)", x.pay(0, 55), 2);
-        due.is("owes(0, -1)", x.owes(0, -1), 135);
+        due.is("owes(0, -1)", x.owes(0, -1), 126);
+        due.is("owes(0, 30)", x.owes(0, 30), 126 + 5 + 7);
+        due.is("owes(1, 31)", x.owes(1, 31), 98);
         due.is("a late one can't come back", x.back(third, 1), -1);
-        due.is("it is still lent", x.overdue(third, 1), 10);
+        due.is("it is still lent", x.overdue(third, 1), 1);
         due.is("it can't be lost", x.lost(third, 5, 0), -1);
-        due.is("it is not lost", x.overdue(third, 1), 10);
+        due.is("it is not lost", x.overdue(third, 1), 1);
         due.is("one in time comes back", x.back(fourth, 0), 0);
         due.is("a late one can't be found", x.found(0, 1), -1);
-        due.is("nothing changed by that", x.owes(0, -1), 135);
+        due.is("nothing changed by that", x.owes(0, -1), 126);
         due.is("one in time is found", x.found(0, 0), 50);
         due.is("a partly paid one in time is found", x.found(1, 0), 5);
-        due.is("owes(0, -1)", x.owes(0, -1), 25);
-        due.is("debt(200, 2)", x.debt(200, 2), 10);
+        due.is("owes(0, -1)", x.owes(0, -1), 16);
+        due.is("debt(200, 2)", x.debt(200, 2), 1);
         due.is("debt(201, 2)", x.debt(201, 2), -1);
         due.is("the 200th is paid behind the others", x.pay(0, 15), 1);
         due.is("debt(199, 2)", x.debt(199, 2), 0);
